@@ -13,6 +13,7 @@ public final class FightsTest {
         takeDestroys();
         spoils();
         capturedCraft();
+        nothingToCapture();
         Check.finish("FightsTest");
     }
 
@@ -34,6 +35,9 @@ public final class FightsTest {
         fights(EmpireTurns.RIVER, EmpireTurns.GUARD, EmpireTurns.GUARD, 10 - 7, 10 - 4);
         fights(EmpireTurns.PLAIN, EmpireTurns.RAM, EmpireTurns.WORKER, 10 - 2, 10 - 8);
         fights(EmpireTurns.HILL, EmpireTurns.RAM, EmpireTurns.RAM, 10 - 2, 10 - 8);
+        // 600 to 300 and 260.
+        fights(EmpireTurns.HILL, EmpireTurns.RAM, EmpireTurns.RIDER, 10 - 4, 10 - 7);
+        fights(EmpireTurns.FOREST, EmpireTurns.RAM, EmpireTurns.RIDER, 10 - 3, 10 - 7);
     }
 
     private static void fights(int land, int first, int other, int firstLeft, int otherLeft) {
@@ -302,5 +306,25 @@ public final class FightsTest {
         Check.same("the lowest that can be learned", game.player(0, 3), 5);
         Check.same("the goal is none", game.player(0, 2), EmpireTurns.NONE);
         Check.same("the loser knows it still", game.player(1, 3), 61);
+    }
+
+    /** The loser knows the craft 1 alone, for it came to need 0 when it was the goal already. */
+    private static void nothingToCapture() {
+        EmpireTurns game = new EmpireTurns();
+        game.learn(1, 1);
+        game.need(1, 0);
+        Games.layAll(game, EmpireTurns.SEA);
+        game.lay(19, EmpireTurns.PLAIN);
+        game.lay(20, EmpireTurns.PLAIN);
+        game.lay(16, EmpireTurns.PLAIN);
+        Games.city(game, 1, 20);
+        Games.city(game, 0, 16);
+        int rider = game.place(0, EmpireTurns.RIDER, 19);
+        game.setParts(1, 100);
+        Games.endTurns(game, 12);
+        Check.same("the loser knows", game.player(1, 3), 2);
+        Check.holds("takes", game.step(rider, 1, 0));
+        Check.same("owner", game.city(0, 0), 0);
+        Check.same("one that cannot be learned is not captured", game.player(0, 3), 0);
     }
 }

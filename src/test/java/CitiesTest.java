@@ -52,28 +52,11 @@ public final class CitiesTest {
     }
 
     private static void foundTwelve() {
-        EmpireTurns game = new EmpireTurns();
-        for (int i = 0; i < 9; i++) {
-            Check.same("number", Games.city(game, 0, 3 * (i % 3) + 24 * (i / 3)), i);
-        }
-        // No more fit on the board at once; a city of the size 1 that is taken makes room for another one.
-        int[] riders = {game.place(1, EmpireTurns.RIDER, 1), game.place(1, EmpireTurns.RIDER, 1)};
-        for (int i = 0; i < 3; i++) {
-            raze(game, riders[i / 2]);
-            Check.same("a number is not used again", Games.city(game, 0, 0), 9 + i);
-        }
-        raze(game, riders[1]);
-        Check.same("9 were destroyed or are there", game.player(0, 6), 8);
+        EmpireTurns game = Games.twelveFounded();
+        Check.same("4 of 12 were destroyed", game.player(0, 6), 8);
+        Check.nothingThere("a number is not used again", game, () -> game.city(0, 0));
         int late = game.place(0, EmpireTurns.SETTLER, 0);
         Check.badState("a thirteenth", game, () -> game.found(late));
-    }
-
-    /** The rider takes the city of the size 1 on the tile 0, which is destroyed, and goes back. */
-    private static void raze(EmpireTurns game, int rider) {
-        Check.holds("it is on the tile", game.step(rider, -1, 0));
-        Check.same("no city", game.tile(0, 3), EmpireTurns.NONE);
-        Check.same("the tile stays as it is", game.tile(0, 2), 0);
-        Check.holds("it is back", game.step(rider, 1, 0));
     }
 
     private static void order() {

@@ -24,9 +24,10 @@ public final class ModelTest {
         name = "game " + seed;
     }
 
+    /** Behind the two paths that every test gets, the first and the last game can be told. */
     public static void main(String[] args) {
-        int first = args.length > 1 ? Integer.parseInt(args[1]) : 1;
-        int last = args.length > 2 ? Integer.parseInt(args[2]) : 120;
+        int first = args.length > 3 ? Integer.parseInt(args[2]) : 1;
+        int last = args.length > 3 ? Integer.parseInt(args[3]) : 120;
         for (int seed = first; seed <= last; seed++) {
             ModelTest one = new ModelTest(seed);
             one.begin();

@@ -52,35 +52,16 @@ public final class PlansTest {
         Check.same("no tile at first", game.planByAll(0), 0);
     }
 
-    private static void planned(EmpireTurns game, String what, int city, int... tiles) {
-        long due = 0;
-        for (int tile : tiles) {
-            due |= 1L << tile;
-        }
-        Check.same(what, game.plan(city), due);
-        Check.same(what + ", by all", game.planByAll(city), due);
-    }
-
     /** A city of the size 2 gets 2 food of its own tile and needs 4. */
     private static void enoughFood() {
-        EmpireTurns game = new EmpireTurns();
-        Games.layAll(game, EmpireTurns.DESERT);
-        game.lay(9, EmpireTurns.HILL);
-        game.lay(10, EmpireTurns.HILL);
-        game.lay(29, EmpireTurns.PLAIN);
-        Games.city(game, 0, 19);
-        game.order(0, 9, 1, 1);
-        game.endTurn();
-        planned(game, "size 1", 0, 29);
-        Games.endTurns(game, 8);
-        Check.same("size", game.city(0, 2), 2);
-        planned(game, "PLAIN 19 and HILL 11", 0, 9, 29);
+        EmpireTurns game = Games.sizeTwo();
+        Check.planned(game, "PLAIN 19 and HILL 11", 0, 9, 29);
         game.order(0, 1, 9, 1);
-        planned(game, "two HILLs of 19", 0, 9, 10);
+        Check.planned(game, "two HILLs of 19", 0, 9, 10);
         game.order(0, 1, 1, 9);
-        planned(game, "DESERT 10 and PLAIN 3, as two DESERTs have no food", 0, 1, 29);
+        Check.planned(game, "DESERT 10 and PLAIN 3, as two DESERTs have no food", 0, 11, 29);
         game.order(0, 1, 1, 1);
-        planned(game, "HILLs and PLAIN are 3 each", 0, 9, 10);
+        Check.planned(game, "HILLs and PLAIN are 3 each", 0, 9, 10);
     }
 
     private static void mostFood() {
@@ -96,18 +77,18 @@ public final class PlansTest {
         game.order(0, 9, 1, 1);
         Games.endTurns(game, 6);
         Check.same("size", game.city(0, 2), 2);
-        planned(game, "RIVERs", 0, 17, 18);
+        Check.planned(game, "RIVERs", 0, 17, 18);
         game.step(one, 0, -1);
         game.step(one, 0, -1);
         game.step(other, 1, -1);
-        planned(game, "RIVER and HILL", 0, 3, 18);
+        Check.planned(game, "RIVER and HILL", 0, 3, 18);
         game.order(0, 1, 1, 9);
-        planned(game, "RIVER and DESERT", 0, 1, 18);
+        Check.planned(game, "RIVER and DESERT", 0, 1, 18);
         game.endTurn();
         game.step(one, 1, 0);
-        planned(game, "the other RIVER", 0, 1, 17);
+        Check.planned(game, "the other RIVER", 0, 1, 17);
         game.step(other, 0, -1);
-        planned(game, "HILL, as it has more food than two DESERTs", 0, 1, 3);
+        Check.planned(game, "HILL, as it has more food than two DESERTs", 0, 1, 3);
         Check.same("which is not enough", game.city(0, 8), 3);
         game.endTurn();
         Check.same("the store of 1, and 3 food less 4", game.city(0, 3), 0);
@@ -121,24 +102,24 @@ public final class PlansTest {
         int rider = game.place(1, EmpireTurns.RIDER, 25);
         Games.city(game, 1, 31);
         game.endTurn();
-        planned(game, "the lowest", 0, 1);
-        planned(game, "in no earlier plan", 1, 2);
+        Check.planned(game, "the lowest", 0, 1);
+        Check.planned(game, "in no earlier plan", 1, 2);
         game.step(rider, 0, -1);
         game.step(rider, 0, -1);
         game.step(rider, 0, -1);
-        planned(game, "no foe's tile", 0, 2);
-        planned(game, "so the next one", 1, 4);
+        Check.planned(game, "no foe's tile", 0, 2);
+        Check.planned(game, "so the next one", 1, 4);
         Check.same("its trade", game.city(1, 10), 1);
         Games.agree(game, 0, 1, EmpireTurns.PEACE, 5, 0);
-        planned(game, "in peace that does not matter", 0, 1);
+        Check.planned(game, "in peace that does not matter", 0, 1);
         EmpireTurns near = new EmpireTurns();
         Games.city(near, 0, 19);
         Games.city(near, 1, 16);
         near.endTurn();
         Check.same("nobody's", near.tile(2, 2), EmpireTurns.NONE);
         Check.same("its own", near.tile(3, 2), 0);
-        planned(near, "1, 2, 9 and 17 are not its own", 0, 3);
-        planned(near, "0 is its own", 1, 0);
+        Check.planned(near, "1, 2, 9 and 17 are not its own", 0, 3);
+        Check.planned(near, "0 is its own", 1, 0);
     }
 
     private static void sizesByAll() {

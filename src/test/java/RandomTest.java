@@ -65,7 +65,7 @@ public final class RandomTest {
             Check.holds(where + ": IllegalArgumentException of method " + method, mayThrow(method, 'A'));
         } catch (IndexOutOfBoundsException e) {
             Check.holds(where + ": IndexOutOfBoundsException of method " + method, mayThrow(method, 'B')
-                && e.getClass() == IndexOutOfBoundsException.class);
+                && e.getClass() == IndexOutOfBoundsException.class && Check.isOwn(e));
         } catch (IllegalStateException e) {
             Check.holds(where + ": IllegalStateException of method " + method, mayThrow(method, 'S'));
         }

@@ -369,16 +369,7 @@ public final class TurnsTest {
 
     /** Two players hold each other off a tile until a third one founds a city there. */
     private static void tilesOfCities() {
-        EmpireTurns game = new EmpireTurns();
-        Games.city(game, 0, 0);
-        Games.city(game, 0, 48);
-        Games.city(game, 1, 6);
-        Games.city(game, 1, 54);
-        Games.city(game, 2, 31);
-        int settler = game.place(2, EmpireTurns.SETTLER, 27);
-        Games.endTurns(game, 60);
-        Check.same("nobody's", game.tile(27, 2), EmpireTurns.NONE);
-        Check.same("city", game.found(settler), 5);
+        EmpireTurns game = Games.foundedBetweenOldOnes();
         Games.endTurns(game, 3);
         Check.same("pull of its owner", game.pull(2, 27), 4 * 8);
         Check.same("pull of another one", game.pull(0, 27), 2 * (4 * 68 / 16));

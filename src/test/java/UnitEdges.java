@@ -336,6 +336,36 @@ final class UnitEdges {
         Check.same("5 away from the tile 26", other.unit(2, 3), 9);
     }
 
+    /** All tiles beside the new city on the tile 0 are pulled more by old ones on 3 and 24. */
+    @Sentence(promise = 21, under = "Units", says = SUPPLY)
+    static void oneTileKeepsInSupply() {
+        EmpireTurns game = new EmpireTurns();
+        Games.layAll(game, EmpireTurns.DESERT);
+        Games.city(game, 1, 3);
+        Games.city(game, 2, 24);
+        Games.city(game, 0, 63);
+        int settler = game.place(0, EmpireTurns.SETTLER, 0);
+        int near = game.place(0, EmpireTurns.GUARD, 4);
+        int rider = game.place(2, EmpireTurns.RIDER, 51);
+        Games.endTurns(game, 11);
+        game.found(settler);
+        int[][] ways = {{1, 0}, {1, 0}, {1, 1}, {1, 0}};
+        for (int[] way : ways) {
+            Check.holds("on its way to 63", game.step(rider, way[0], way[1]));
+        }
+        Check.same("in health", game.unit(near, 3), 10);
+        game.endTurn();
+        int held = 0;
+        for (int tile = 0; tile < 64; tile++) {
+            held += game.tile(tile, 2) == 0 ? 1 : 0;
+        }
+        Check.same("one tile alone", held, 1);
+        Check.same("4 away from it", game.unit(near, 3), 10);
+        game.step(near, 1, 0);
+        game.endTurn();
+        Check.same("5 away from it", game.unit(near, 3), 9);
+    }
+
     @Sentence(promise = 21, under = "Units", says = SUPPLY)
     static void healthComesBackUpToTen() {
         EmpireTurns game = new EmpireTurns();
